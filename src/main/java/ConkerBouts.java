@@ -365,16 +365,19 @@ public final class ConkerBouts {
 
     /** What the kinds of players and of nuts make of one blow. */
     private static final class Blow {
+        private static final int STRONG = 1, SLY = 2, TIRED = 3, SMALL = 4, WILD = 5;
+        private static final int OLD = 1, BAKED = 2, PICKLED = 3, HOLLOW = 4, DAMP = 5;
+
         static int force(int kind, int arm, int weight, int t) {
             int plain = arm + weight;
             int strong = plain + 3;
             int sly = t % 3 == 2 ? plain + 4 : plain;
             switch (kind) {
-                case 1: return strong;
-                case 2: return sly;
-                case 3: return Math.max(1, strong - t / 5);
-                case 4: return (plain + 1) / 2;
-                case 5: return t % 7 == 0 ? 2 * sly : sly;
+                case STRONG: return strong;
+                case SLY: return sly;
+                case TIRED: return Math.max(1, strong - t / 5);
+                case SMALL: return (plain + 1) / 2;
+                case WILD: return t % 7 == 0 ? 2 * sly : sly;
                 default: return plain;
             }
         }
@@ -385,11 +388,11 @@ public final class ConkerBouts {
             int old = plain / 2;
             int baked = force > hard ? plain + 2 : plain;
             switch (kind) {
-                case 1: return old;
-                case 2: return baked;
-                case 3: return Math.min(2, old);
-                case 4: return baked == 0 ? 0 : baked + had;
-                case 5: return t % 2 == 1 ? Math.max(0, plain - 1) : plain;
+                case OLD: return old;
+                case BAKED: return baked;
+                case PICKLED: return Math.min(2, old);
+                case HOLLOW: return baked == 0 ? 0 : baked + had;
+                case DAMP: return t % 2 == 1 ? Math.max(0, plain - 1) : plain;
                 default: return plain;
             }
         }
