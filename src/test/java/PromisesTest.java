@@ -187,6 +187,12 @@ public final class PromisesTest {
         reads("yard 5; player 1 2", -28);
         reads("yar 5;", -10);
         reads("yards 5;", -10);
+        reads("yarda 5;", -10);
+        reads("yardz 5;", -10);
+        reads("yard`5;", -14);
+        reads("yard{5;", -14);
+        reads("yard/5;", -14);
+        reads("yard:5;", -14);
         reads(" Yard 5;", -11);
         reads("yarD 5;", -10);
         reads("player 0 1;", -10);
@@ -208,6 +214,8 @@ public final class PromisesTest {
         reads("yard 5;player 0 1;nut 0 6 0 1;", -34);
         reads("yard 5;player 0 1;nut 0 5 10 1;", -36);
         reads("yard 5;player 0 1;nut 0 5 9 0;", -38);
+        reads("yard 5;player 0 1;nut 0 5 9 10;", -38);
+        reads("yard 5;player 0 1;nut 0 5 9 9;", 3);
         reads("yard 5;player 0 1;nut 1 5 9 1;", -32);
         reads("yard 0;player 0 4;player 5 9;player 3 1;player 9", -50);
         reads("yard 5;wait 0;", -22);
@@ -920,6 +928,23 @@ public final class PromisesTest {
         x.nut(1, 3, 9, 1);
         due("pair(0, 1, -1)", x.pair(0, 1, -1), 1);
         due("pair(0, 1, 0)", x.pair(0, 1, 0), 3);
+        pairThatTies();
+    }
+
+    /** Nut 0 breaks nut 2 at a blow and gets three cracks by it, nut 1 does nothing and gets nothing: that is alike. */
+    private static void pairThatTies() {
+        ConkerBouts x = new ConkerBouts();
+        x.player(0, 4);
+        x.player(0, 1);
+        x.nut(0, 0, 3, 9);
+        x.nut(0, 0, 9, 1);
+        x.nut(1, 2, 5, 1);
+        due("crack(0, 2, 0)", x.crack(0, 2, 0), 10);
+        due("crack(0, 2, 1)", x.crack(0, 2, 1), 3);
+        due("bout(1, 2, 0)", x.bout(1, 2, 0), -1);
+        due("pair(0, 1, -1)", x.pair(0, 1, -1), 2);
+        due("pair(0, 1, 0)", x.pair(0, 1, 0), 2);
+        due("pair(0, 1, 1)", x.pair(0, 1, 1), 12);
     }
 
     private static void promise32() {
