@@ -1014,6 +1014,9 @@ public final class PromisesTest {
         due("days(0, 61)", x.days(0, 61), -2);
         due("days(0, -1)", x.days(0, -1), -2);
         due("days(999999, 60) is as told", x.days(999999, 60), daysOfSix(999999, 60));
+        // seeds whose X lies close to where the quotient changes
+        due("days(1984, 2)", x.days(1984, 2), 0);
+        due("days(15140, 2)", x.days(15140, 2), 1);
         for (int seed = 0; seed < 40; seed++) due("days(" + seed + ", 9)", x.days(seed, 9), daysOfSix(seed, 9));
         x.strikes(3, 1);
         due("days(0, 0)", x.days(0, 0), 1);
