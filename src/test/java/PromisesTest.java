@@ -13,45 +13,8 @@ public final class PromisesTest {
         due("status(2)", x.status(2), full);
     }
 
-    /** Player 0 strikes with force 9 (nut 0, which a half of it does not crack); nut 1 is player 1's. */
-    private static ConkerBouts two(int t, int kind, int hard) {
-        ConkerBouts x = new ConkerBouts();
-        x.yard(t);
-        x.player(0, 4);
-        x.player(0, 1);
-        x.nut(0, 0, 9, 5);
-        x.nut(1, kind, hard, 1);
-        return x;
-    }
-
-    /** Nut 0 breaks by its own blow of force 18, as does any soft nut that it strikes. */
-    private static ConkerBouts bothBreak() {
-        ConkerBouts x = new ConkerBouts();
-        x.player(0, 9);
-        x.player(0, 9);
-        x.nut(0, 2, 0, 9);
-        x.nut(1, 0, 0, 9);
-        return x;
-    }
-
-    /** Three nuts of player 0 against three of player 1, who breaks any of them at a blow. */
-    private static ConkerBouts six() {
-        ConkerBouts x = new ConkerBouts();
-        x.player(0, 1);
-        x.player(0, 9);
-        for (int i = 0; i < 3; i++) x.nut(0, 0, 0, 1);
-        for (int i = 0; i < 3; i++) x.nut(1, 0, 9, 9);
-        return x;
-    }
-
-    private static int readText(ConkerBouts x, String text) {
-        x.clear();
-        for (char c : text.toCharArray()) x.type(c);
-        return x.read();
-    }
-
     private static void reads(String text, int want) {
-        due("read of '" + text + "'", readText(new ConkerBouts(), text), want);
+        due("read of '" + text + "'", Yards.readText(new ConkerBouts(), text), want);
     }
 
     private static void promise1() {
@@ -74,7 +37,7 @@ public final class PromisesTest {
     }
 
     private static void promise2() {
-        ConkerBouts x = six();
+        ConkerBouts x = Yards.six();
         x.strikes(3, 0);
         x.seen(1, 0, 0, 0, 0);
         x.note(1, 0, 0, 0, 0, 0);
@@ -113,7 +76,7 @@ public final class PromisesTest {
         due("who(1, 1)", x.who(1, 1), 9);
         due("count(0)", x.count(0), 3);
         refused(x, 6, 0, 1);
-        ConkerBouts y = two(0, 0, 0);
+        ConkerBouts y = Yards.two(0, 0, 0);
         y.waits(1);
         due("player(6, 1)", y.player(6, 1), -2);
         due("count(9)", y.count(9), 1);
@@ -126,7 +89,7 @@ public final class PromisesTest {
     }
 
     private static void promise4() {
-        ConkerBouts x = two(0, 0, 0);
+        ConkerBouts x = Yards.two(0, 0, 0);
         x.waits(2);
         due("nut(2, 0, 0, 1)", x.nut(2, 0, 0, 1), -2);
         due("nut(-1, 0, 0, 1)", x.nut(-1, 0, 0, 1), -2);
@@ -243,18 +206,18 @@ public final class PromisesTest {
     }
 
     private static void readStaysOrTakesThePlace() {
-        ConkerBouts x = six();
+        ConkerBouts x = Yards.six();
         x.waits(7);
         x.seen(0, 0, 0, 0, 0);
         x.image(0);
         x.odds(3, 0, 1, 5);
         long before = x.digest();
-        readText(x, "y");
+        Yards.readText(x, "y");
         due("read()", x.read(), -10);
         x.clear();
         due("digest() behind a fault", x.digest(), before);
         refused(x, 0, 0, 0);
-        due("read()", readText(x, "yard 20;player 0 9;player 0 1;nut 0 0 9 9;nut 1 0 0 1;strike 0 1;wait 9;"), 7);
+        due("read()", Yards.readText(x, "yard 20;player 0 9;player 0 1;nut 0 0 9 9;nut 1 0 0 1;strike 0 1;wait 9;"), 7);
         int[] counts = {2, 2, 30, 2, 10, 3, 0, 0, 0, 0, 72};
         for (int what = 0; what <= 10; what++) due("count(" + what + ")", x.count(what), counts[what]);
         due("of(0, 5)", x.of(0, 5), 2);
@@ -266,7 +229,7 @@ public final class PromisesTest {
     }
 
     private static void promise8() {
-        ConkerBouts x = two(0, 0, 5);
+        ConkerBouts x = Yards.two(0, 0, 5);
         due("strikes(0, 1)", x.strikes(0, 1), 4);
         due("of(0, 4)", x.of(0, 4), 0);
         due("strikes(1, 0)", x.strikes(1, 0), 0);
@@ -284,7 +247,7 @@ public final class PromisesTest {
         due("strikes(HIGH, LOW)", x.strikes(HIGH, LOW), -2);
         due("count(2)", x.count(2), 4);
         refused(x, 4, 2, 0);
-        ConkerBouts y = bothBreak();
+        ConkerBouts y = Yards.bothBreak();
         y.nut(0, 0, 0, 1);
         due("strikes(0, 2)", y.strikes(0, 2), -3);
         due("strikes(0, 1)", y.strikes(0, 1), 10);
@@ -303,9 +266,9 @@ public final class PromisesTest {
             {1, 5, 8, 0}, {2, 5, 8, 1}, {1, 5, 9, 0}, {2, 2, 0, 10},
         };
         for (int[] r : rows) {
-            due("kind " + r[1] + " hard " + r[2] + " in " + r[0], two(r[0] - 1, r[1], r[2]).strikes(0, 1), r[3]);
+            due("kind " + r[1] + " hard " + r[2] + " in " + r[0], Yards.two(r[0] - 1, r[1], r[2]).strikes(0, 1), r[3]);
         }
-        ConkerBouts hollow = two(0, 4, 8);
+        ConkerBouts hollow = Yards.two(0, 4, 8);
         due("a hollow one, 0 ahead", hollow.strikes(0, 1), 3);
         due("a hollow one, 3 ahead", hollow.strikes(0, 1), 9);
         due("a hollow one, 9 ahead", hollow.strikes(0, 1), 10);
@@ -343,7 +306,7 @@ public final class PromisesTest {
     }
 
     private static void promise9() {
-        ConkerBouts x = two(0, 0, 0);
+        ConkerBouts x = Yards.two(0, 0, 0);
         due("waits(0)", x.waits(0), -2);
         due("waits(61)", x.waits(61), -2);
         due("waits(LOW)", x.waits(LOW), -2);
@@ -364,7 +327,7 @@ public final class PromisesTest {
     }
 
     private static void promise10() {
-        ConkerBouts x = two(0, 0, 0);
+        ConkerBouts x = Yards.two(0, 0, 0);
         x.player(5, 2);
         due("hands(0, 0)", x.hands(0, 0), -3);
         due("hands(0, 2)", x.hands(0, 2), 0);
@@ -388,7 +351,7 @@ public final class PromisesTest {
     }
 
     private static void promise11() {
-        ConkerBouts x = two(10, 0, 5);
+        ConkerBouts x = Yards.two(10, 0, 5);
         due("undo()", x.undo(), -3);
         long first = x.digest();
         x.strikes(0, 1);
@@ -424,7 +387,7 @@ public final class PromisesTest {
     }
 
     private static void promise12() {
-        ConkerBouts x = six();
+        ConkerBouts x = Yards.six();
         int[] told = {1, 0, 9, 9, 0, 1, 18, 7};
         for (int what = 0; what <= 7; what++) due("of(4, " + what + ")", x.of(4, what), told[what]);
         due("of(0, 7)", x.of(0, 7), 56);
@@ -458,7 +421,7 @@ public final class PromisesTest {
     }
 
     private static void promise13() {
-        ConkerBouts x = six();
+        ConkerBouts x = Yards.six();
         due("who(0, 0)", x.who(0, 0), 0);
         due("who(1, 1)", x.who(1, 1), 9);
         due("who(0, 2)", x.who(0, 2), 7);
@@ -476,7 +439,7 @@ public final class PromisesTest {
     }
 
     private static void promise14() {
-        ConkerBouts x = two(0, 0, 5);
+        ConkerBouts x = Yards.two(0, 0, 5);
         long before = x.digest();
         due("crack(0, 1, 0)", x.crack(0, 1, 0), 4);
         due("crack(0, 1, 1)", x.crack(0, 1, 1), 0);
@@ -493,12 +456,12 @@ public final class PromisesTest {
         for (int n = 0; n < 3; n++) x.strikes(0, 1);
         due("crack(0, 1, 0)", x.crack(0, 1, 0), -1);
         due("crack(1, 0, 1)", x.crack(1, 0, 1), -1);
-        due("crack(0, 1, 0) of 18 upon 0", bothBreak().crack(0, 1, 0), 10);
+        due("crack(0, 1, 0) of 18 upon 0", Yards.bothBreak().crack(0, 1, 0), 10);
         refused(x, 5, 0, 0);
     }
 
     private static void promise15() {
-        ConkerBouts x = two(0, 0, 5);
+        ConkerBouts x = Yards.two(0, 0, 5);
         long before = x.digest();
         due("lasts(0, 1, 0)", x.lasts(0, 1, 0), 3);
         due("lasts(0, 1, 1)", x.lasts(0, 1, 1), 0);
@@ -517,8 +480,8 @@ public final class PromisesTest {
         due("lasts(0, 1, 1)", x.lasts(0, 1, 1), -1);
         due("lasts(1, 0, 1)", x.lasts(1, 0, 1), -1);
         refused(x, 5, 0, 0);
-        due("lasts(0, 1, 0), both", bothBreak().lasts(0, 1, 0), 1);
-        due("lasts(0, 1, 1), both", bothBreak().lasts(0, 1, 1), -1);
+        due("lasts(0, 1, 0), both", Yards.bothBreak().lasts(0, 1, 0), 1);
+        due("lasts(0, 1, 1), both", Yards.bothBreak().lasts(0, 1, 1), -1);
         lastsSixty();
     }
 
@@ -558,7 +521,7 @@ public final class PromisesTest {
     }
 
     private static void promise16() {
-        ConkerBouts x = two(0, 0, 5);
+        ConkerBouts x = Yards.two(0, 0, 5);
         long before = x.digest();
         due("bout(0, 1, 0)", x.bout(0, 1, 0), 5);
         due("bout(0, 1, 1)", x.bout(0, 1, 1), 0);
@@ -577,15 +540,15 @@ public final class PromisesTest {
         for (int what = 0; what <= 2; what++) due("bout(0, 1, " + what + ")", x.bout(0, 1, what), -1);
         for (int what = 0; what <= 2; what++) due("bout(1, 0, " + what + ")", x.bout(1, 0, what), -1);
         refused(x, 5, 0, 0);
-        due("bout(0, 1, 0), both", bothBreak().bout(0, 1, 0), 1);
-        due("bout(0, 1, 1), both", bothBreak().bout(0, 1, 1), -1);
-        due("bout(0, 1, 2), both", bothBreak().bout(0, 1, 2), -1);
-        ConkerBouts never = two(0, 0, 9);
+        due("bout(0, 1, 0), both", Yards.bothBreak().bout(0, 1, 0), 1);
+        due("bout(0, 1, 1), both", Yards.bothBreak().bout(0, 1, 1), -1);
+        due("bout(0, 1, 2), both", Yards.bothBreak().bout(0, 1, 2), -1);
+        ConkerBouts never = Yards.two(0, 0, 9);
         for (int what = 0; what <= 2; what++) due("bout that never ends, " + what, never.bout(0, 1, what), -1);
     }
 
     private static void promise17() {
-        ConkerBouts x = six();
+        ConkerBouts x = Yards.six();
         for (int k = 0; k < 6; k++) due("rank(" + k + ")", x.rank(k), k);
         due("rank(-1)", x.rank(-1), -2);
         due("rank(LOW)", x.rank(LOW), -2);
@@ -597,7 +560,7 @@ public final class PromisesTest {
         int[] ranks = {5, 4, 3, 0, 1, 2};
         for (int k = 0; k < 6; k++) due("rank(" + k + ")", x.rank(k), ranks[k]);
         refused(x, 2, 2, 0);
-        ConkerBouts y = six();
+        ConkerBouts y = Yards.six();
         y.strikes(3, 0);
         y.hands(4, 0);
         // nut 4's weight of 9 makes player 0's blow 10: one crack for nut 3 of score 2 each time
@@ -609,7 +572,7 @@ public final class PromisesTest {
     }
 
     private static void promise18() {
-        ConkerBouts x = six();
+        ConkerBouts x = Yards.six();
         long before = x.digest();
         due("order(3, -2)", x.order(3, -2), 4);
         due("order(3, -1)", x.order(3, -1), 0);
@@ -667,7 +630,7 @@ public final class PromisesTest {
     }
 
     private static void promise19() {
-        ConkerBouts x = two(0, 0, 5);
+        ConkerBouts x = Yards.two(0, 0, 5);
         long before = x.digest();
         due("firm(0, 1)", x.firm(0, 1), 2);
         due("firm(1, 0)", x.firm(1, 0), -1);
@@ -684,7 +647,7 @@ public final class PromisesTest {
     }
 
     private static void promise20() {
-        ConkerBouts x = six();
+        ConkerBouts x = Yards.six();
         long before = x.digest();
         due("fit(1, 0)", x.fit(1, 0), 30);
         due("fit(1, 1)", x.fit(1, 1), 2);
@@ -702,7 +665,7 @@ public final class PromisesTest {
     }
 
     private static void promise21() {
-        ConkerBouts x = two(0, 0, 5);
+        ConkerBouts x = Yards.two(0, 0, 5);
         int[][] wrong = {
             {2, 0, 0, 0, 0}, {-1, 0, 0, 0, 0}, {0, 100, 0, 0, 0}, {0, -1, 0, 0, 0}, {0, 0, 10, 0, 0}, {0, 0, -1, 0, 0},
             {0, 0, 0, 45, 0}, {0, 0, 0, -1, 0}, {0, 0, 0, 0, 61}, {0, 0, 0, 0, -1},
@@ -718,7 +681,7 @@ public final class PromisesTest {
     }
 
     private static void promise22() {
-        ConkerBouts x = two(0, 1, 5);
+        ConkerBouts x = Yards.two(0, 1, 5);
         due("hards(1)", x.hards(1), 1023);
         // an old one: half of 9 - h is 2 by h 4 and 5
         x.seen(1, 1, 0, 9, 2);
@@ -731,10 +694,10 @@ public final class PromisesTest {
         due("hards(2)", x.hards(2), -2);
         due("hards(-1)", x.hards(-1), -2);
         refused(x, 2, 0, 0);
-        ConkerBouts hollow = two(0, 4, 5);
+        ConkerBouts hollow = Yards.two(0, 4, 5);
         hollow.seen(1, 0, 9, 44, 55);
         due("hards(1), hollow", hollow.hards(1), 1);
-        ConkerBouts damp = two(0, 5, 5);
+        ConkerBouts damp = Yards.two(0, 5, 5);
         damp.seen(1, 3, 0, 9, 3);
         due("hards(1), damp, odd", damp.hards(1), 32);
         damp.forget(0);
@@ -743,18 +706,18 @@ public final class PromisesTest {
     }
 
     private static void promise23() {
-        ConkerBouts x = two(0, 0, 5);
+        ConkerBouts x = Yards.two(0, 0, 5);
         due("tell(0)", x.tell(0), 90);
         due("tell(2)", x.tell(2), -2);
         due("tell(-1)", x.tell(-1), -2);
         // 6 and 7 are left: by force 8 they get 1 and 0
-        ConkerBouts pickled = two(0, 3, 5);
+        ConkerBouts pickled = Yards.two(0, 3, 5);
         pickled.seen(1, 1, 0, 9, 1);
         due("hards(1)", pickled.hards(1), 192);
         due("tell(1)", pickled.tell(1), 80);
         pickled.seen(1, 1, 0, 9, 2);
         due("tell(1)", pickled.tell(1), -1);
-        ConkerBouts damp = two(0, 5, 5);
+        ConkerBouts damp = Yards.two(0, 5, 5);
         damp.seen(1, 1, 0, 2, 1);
         due("tell(1), one hard", damp.tell(1), 0);
         damp.forget(0);
@@ -766,7 +729,7 @@ public final class PromisesTest {
     }
 
     private static void promise24() {
-        ConkerBouts x = two(0, 0, 5);
+        ConkerBouts x = Yards.two(0, 0, 5);
         int[][] wrong = {
             {2, 0, 0, 0, 0, 0}, {-1, 0, 0, 0, 0, 0}, {0, 10, 0, 0, 0, 0}, {0, -1, 0, 0, 0, 0}, {0, 0, 100, 0, 0, 0},
             {0, 0, -1, 0, 0, 0}, {0, 0, 0, 10, 0, 0}, {0, 0, 0, -1, 0, 0}, {0, 0, 0, 0, 45, 0}, {0, 0, 0, 0, -1, 0},
@@ -783,7 +746,7 @@ public final class PromisesTest {
     }
 
     private static void promise25() {
-        ConkerBouts x = two(0, 0, 5);
+        ConkerBouts x = Yards.two(0, 0, 5);
         int[][] wrong = {
             {2, 1, 1, 0, 0}, {-1, 1, 1, 0, 0}, {0, 0, 1, 0, 0}, {0, 10, 1, 0, 0}, {0, 1, 0, 0, 0}, {0, 1, 10, 0, 0},
             {0, 1, 1, -1, 0}, {0, 1, 1, 100, 0}, {0, 1, 1, 0, -1}, {0, 1, 1, 0, 61},
@@ -799,7 +762,7 @@ public final class PromisesTest {
     }
 
     private static void promise26() {
-        ConkerBouts x = two(0, 0, 5);
+        ConkerBouts x = Yards.two(0, 0, 5);
         x.seen(0, 0, 0, 0, 0);
         x.note(0, 0, 0, 0, 0, 0);
         x.note(0, 0, 0, 0, 0, 0);
@@ -817,7 +780,7 @@ public final class PromisesTest {
     }
 
     private static void promise27() {
-        ConkerBouts x = two(0, 0, 5);
+        ConkerBouts x = Yards.two(0, 0, 5);
         due("is(0)", x.is(0), 63);
         // 9 upon hard 5 in an even strike, 0 ahead: 4, 2, 6, 2, 6, 4
         x.note(0, 5, 2, 0, 9, 4);
@@ -838,7 +801,7 @@ public final class PromisesTest {
     }
 
     private static void promise28() {
-        ConkerBouts x = two(0, 0, 5);
+        ConkerBouts x = Yards.two(0, 0, 5);
         // strike 1, hard 5: by 11, 1 ahead: 6, 3, 8, 2, 9, 5
         due("look(1)", x.look(1), 111);
         x.note(1, 5, 2, 0, 9, 6);
@@ -849,7 +812,7 @@ public final class PromisesTest {
         due("look(2)", x.look(2), -2);
         due("look(-1)", x.look(-1), -2);
         refused(x, 2, 0, 0);
-        ConkerBouts damp = two(0, 0, 5);
+        ConkerBouts damp = Yards.two(0, 0, 5);
         damp.note(1, 5, 2, 0, 9, 4);
         due("look(1), odd", damp.look(1), 60);
         damp.waits(1);
@@ -857,7 +820,7 @@ public final class PromisesTest {
     }
 
     private static void promise29() {
-        ConkerBouts x = two(0, 0, 5);
+        ConkerBouts x = Yards.two(0, 0, 5);
         due("kinds(0)", x.kinds(0), 63);
         // arm 4, weight 5 in strike 3: 9, 12, 9, 12, 5, 9
         x.mark(0, 4, 5, 3, 9);
@@ -877,7 +840,7 @@ public final class PromisesTest {
     }
 
     private static void promise30() {
-        ConkerBouts x = two(0, 0, 5);
+        ConkerBouts x = Yards.two(0, 0, 5);
         // arm 4, weight 1 in 14: 5, 8, 9, 6, 3, 18
         due("ask(0)", x.ask(0), 141);
         x.mark(0, 4, 5, 3, 12);
@@ -893,7 +856,7 @@ public final class PromisesTest {
     }
 
     private static void promise31() {
-        ConkerBouts x = six();
+        ConkerBouts x = Yards.six();
         long before = x.digest();
         // all bouts of 1 against 0 are alike, and so all nine pairs rest
         due("pair(1, 0, -1)", x.pair(1, 0, -1), 9);
@@ -948,7 +911,7 @@ public final class PromisesTest {
     }
 
     private static void promise32() {
-        ConkerBouts x = two(0, 0, 5);
+        ConkerBouts x = Yards.two(0, 0, 5);
         long before = x.digest();
         due("odds(0, 1, 3, 5)", x.odds(0, 1, 3, 5), 1);
         due("part(0)", x.part(0), 1);
@@ -976,7 +939,7 @@ public final class PromisesTest {
     }
 
     private static void oddsThatCanNotBe() {
-        ConkerBouts x = two(0, 0, 0);
+        ConkerBouts x = Yards.two(0, 0, 0);
         x.nut(0, 0, 0, 1);
         x.odds(0, 2, 6, 0);
         due("odds of like ones", x.part(0), 0);
@@ -987,7 +950,7 @@ public final class PromisesTest {
         due("odds upon a broken one, below", x.part(1), 1);
         x.odds(1, 0, 3, 5);
         due("odds of a broken one", x.part(0), 0);
-        ConkerBouts y = bothBreak();
+        ConkerBouts y = Yards.bothBreak();
         y.odds(0, 1, 1, 0);
         due("odds, both", y.part(0), 0);
         ConkerBouts damp = new ConkerBouts();
@@ -1002,7 +965,7 @@ public final class PromisesTest {
     }
 
     private static void promise33() {
-        ConkerBouts x = six();
+        ConkerBouts x = Yards.six();
         long before = x.digest();
         due("days(0, 0)", x.days(0, 0), 0);
         // X 12345: nut 0 upon 0; then 1406932606: nut 0 (of 21468) upon 3 (of 1341)
@@ -1023,7 +986,7 @@ public final class PromisesTest {
         refused(x, 4, 0, 0);
     }
 
-    /** In six() a nut below 3 breaks when one of 3 to 5 strikes it, and by nothing else. */
+    /** In Yards.six() a nut below 3 breaks when one of 3 to 5 strikes it, and by nothing else. */
     private static int daysOfSix(long x, int n) {
         boolean[] broken = new boolean[3];
         for (int k = 0; k < n; k++) {
@@ -1035,7 +998,7 @@ public final class PromisesTest {
     }
 
     private static void promise34() {
-        ConkerBouts x = two(0, 0, 5);
+        ConkerBouts x = Yards.two(0, 0, 5);
         due("part(0)", x.part(0), 0);
         due("part(1)", x.part(1), 1);
         due("part(2)", x.part(2), -2);
@@ -1049,7 +1012,7 @@ public final class PromisesTest {
     }
 
     private static void promise35() {
-        ConkerBouts x = two(3, 0, 5);
+        ConkerBouts x = Yards.two(3, 0, 5);
         due("image(2)", x.image(2), -2);
         due("image(-1)", x.image(-1), -2);
         due("image(0)", x.image(0), 1);
@@ -1066,7 +1029,7 @@ public final class PromisesTest {
     }
 
     private static void promise36() {
-        ConkerBouts x = two(3, 0, 5);
+        ConkerBouts x = Yards.two(3, 0, 5);
         due("from(2)", x.from(2), -2);
         due("from(-1)", x.from(-1), -2);
         due("from(1)", x.from(1), -3);
@@ -1127,7 +1090,7 @@ public final class PromisesTest {
     }
 
     private static void promise38() {
-        ConkerBouts x = six();
+        ConkerBouts x = Yards.six();
         x.strikes(4, 1);
         x.waits(3);
         x.seen(0, 0, 0, 0, 0);

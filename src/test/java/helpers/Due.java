@@ -1,20 +1,33 @@
 /** Holds answers against those that are due. */
 public final class Due {
     private static int wrong = 0, asked = 0;
-    private static int promise = 0;
+    private static String where = "";
 
     private Due() {
     }
 
     static void promise(int number) {
-        promise = number;
+        where = "promise " + number;
+    }
+
+    static void sentence(int promise, String words) {
+        where = "promise " + promise + ", '" + words + "'";
+    }
+
+    static int asked() {
+        return asked;
     }
 
     static void due(String call, long got, long want) {
         asked++;
         if (got == want) return;
         wrong++;
-        System.out.println("promise " + promise + ": " + call + " answered " + got + ", due is " + want);
+        System.out.println(where + ": " + call + " answered " + got + ", due is " + want);
+    }
+
+    static void fault(String what) {
+        wrong++;
+        System.out.println(where + ": " + what);
     }
 
     static void end() {
