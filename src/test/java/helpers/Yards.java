@@ -36,9 +36,10 @@ public final class Yards {
         return x.read();
     }
 
-    /** Waits till the number is n, which a yard can not begin with. */
+    /** Waits till the number is n, which a yard can not begin with; by few calls, for an object has but 512. */
     static ConkerBouts waitTill(ConkerBouts x, int n) {
-        while (x.count(2) < n) x.waits(Math.min(60, n - x.count(2)));
+        int number = x.count(2);
+        while (number >= 0 && number < n) number = x.waits(Math.min(60, n - number));
         return x;
     }
 }
