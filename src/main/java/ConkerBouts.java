@@ -417,7 +417,6 @@ public final class ConkerBouts {
         void copyOf(Yard other) {
             players = other.players;
             nuts = other.nuts;
-            number = other.number;
             System.arraycopy(other.playerKind, 0, playerKind, 0, MOST_PLAYERS);
             System.arraycopy(other.arm, 0, arm, 0, MOST_PLAYERS);
             System.arraycopy(other.owner, 0, owner, 0, MOST_NUTS);

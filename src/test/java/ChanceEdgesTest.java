@@ -243,6 +243,16 @@ public final class ChanceEdgesTest {
         return broken;
     }
 
+    /** X goes round by 2147483648 from the second day on at the latest. */
+    private static void whatIsLeftOver() {
+        ConkerBouts x = Yards.six();
+        for (int seed = 0; seed < 1000000; seed += 3571) {
+            due("days(" + seed + ", 4)", x.days(seed, 4), brokenOfSix(seed, 4));
+        }
+        ConkerBouts y = Yards.six();
+        for (int n = 0; n <= 60; n++) due("days(1, " + n + ")", y.days(1, n), brokenOfSix(1, n));
+    }
+
     /** By seed 0 the first X is 12345: nut 0 upon 0; the second 1406932606: 21468 by 6 leaves 0, 1341 by 6 leaves 3. */
     private static void elseANumberGoesBy() {
         int[][] nuts = {{0, 0, 9, 9}, {0, 0, 9, 9}, {0, 0, 9, 9}, {1, 5, 0, 1}};
@@ -254,6 +264,21 @@ public final class ChanceEdgesTest {
         }
     }
 
+    /** Only nut 'strong' breaks nut 'soft', and no other nut any other. */
+    private static ConkerBouts oneBreaksOne(int strong, int soft) {
+        ConkerBouts x = Yards.of(0, new int[][] {{0, 1}, {0, 1}}, new int[0][]);
+        for (int i = 0; i < 6; i++) x.nut(i / 3, 0, i == soft ? 0 : 9, i == strong ? 9 : 1);
+        return x;
+    }
+
+    /** Where the quotients change: X is 25680 times 65536 and 1605 times 1048576, or one less than 3088 and 193 of them. */
+    private static void quotientsAreCut() {
+        due("days(501379, 1): 25680 and 1605 by 6 leave 0 and 3", oneBreaksOne(0, 3).days(501379, 1), 1);
+        due("days(899870, 1): 3087 and 192 by 6 leave 3 and 0", oneBreaksOne(3, 0).days(899870, 1), 1);
+        due("days(501379, 1), the other way round", oneBreaksOne(3, 0).days(501379, 1), 0);
+        due("days(899870, 1), the other way round", oneBreaksOne(0, 3).days(899870, 1), 0);
+    }
+
     private static void ifBothAreThere() {
         int[][] three = {{0, 0, 9, 9}, {0, 0, 9, 9}, {1, 0, 0, 1}};
         ConkerBouts x = Yards.of(0, new int[][] {{0, 1}, {0, 1}}, three);
@@ -262,6 +287,18 @@ public final class ChanceEdgesTest {
         Edge.stays(x, "days(0, 2), nut 3 is there", () -> x.days(0, 2), 1);
         x.hands(3, 0);
         Edge.stays(x, "days(0, 2), nut 3 is the same player's", () -> x.days(0, 2), 0);
+        // nut 0 is player 1's and would break by its own blow, if it struck a nut 3 that is not there, or is there no more
+        ConkerBouts alone = Yards.of(0, new int[][] {{0, 1}, {0, 9}}, new int[][] {{1, 2, 0, 9}});
+        Edge.stays(alone, "days(0, 2), no nut but 0", () -> alone.days(0, 2), 0);
+        ConkerBouts anew = Yards.six();
+        anew.yard(0);
+        for (int p = 0; p < 2; p++) anew.player(0, 9);
+        anew.nut(0, 2, 0, 9);
+        Edge.stays(anew, "days(0, 2), nut 3 was an old yard's", () -> anew.days(0, 2), 0);
+        anew.nut(1, 0, 9, 9);
+        anew.nut(1, 0, 9, 9);
+        anew.nut(1, 0, 9, 9);
+        Edge.stays(anew, "days(0, 2), nut 3 is there", () -> anew.days(0, 2), 1);
         ConkerBouts none = new ConkerBouts();
         for (int n : new int[] {0, 1, 60}) Edge.stays(none, "days(5, " + n + ") of no nuts", () -> none.days(5, n), 0);
     }
@@ -328,6 +365,8 @@ public final class ChanceEdgesTest {
         Edge.holds(32, "the chance that j is BROKEN then, and i not", ChanceEdgesTest::brokenAndTheOtherNot);
         Edge.holds(32, "(its number goes by, nothing else)", ChanceEdgesTest::itsNumberGoesBy);
         Edge.holds(33, "DAYS by a SEED (0 .. 999999), n (0 .. 60)", ChanceEdgesTest::seedAndN);
+        Edge.holds(33, "by 2147483648 what is left over", ChanceEdgesTest::whatIsLeftOver);
+        Edge.holds(33, "NUT X by 65536 (cut), by 6 left over, STRIKES NUT X by 1048576 (cut), by 6 left over", ChanceEdgesTest::quotientsAreCut);
         Edge.holds(33, "else a number goes by", ChanceEdgesTest::elseANumberGoesBy);
         Edge.holds(33, "if both are there and it CAN be", ChanceEdgesTest::ifBothAreThere);
         Edge.holds(33, "how many are BROKEN behind them", ChanceEdgesTest::howManyAreBroken);

@@ -311,6 +311,9 @@ public final class LeftEdgesTest {
         Edge.stays(x, "firm(3, 0)", () -> x.firm(3, 0), 0);
         ConkerBouts both = Yards.bothBreak();
         Edge.stays(both, "firm(1, 0)", () -> both.firm(1, 0), 0);
+        // four and two cracks, were nut 0 hard 0: it has some to spare, but there is no less than 0
+        ConkerBouts soft = Yards.two(0, 0, 0);
+        Edge.stays(soft, "firm(0, 1)", () -> soft.firm(0, 1), 0);
     }
 
     /** One crack ahead: were it hard 9, it would be BROKEN by the ninth answer. */

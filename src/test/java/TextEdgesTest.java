@@ -45,8 +45,9 @@ public final class TextEdgesTest {
     }
 
     private static void wordsThatAreNone() {
-        for (String word : new String[] {"y", "yar", "yards", "yardyard", "dray", "z"}) faultAt("", word + " 5;");
-        String[] none = {"play", "players", "layer", "nuts", "nu", "strikes", "strik", "waits", "wai", "waitwait", "a", "zzz"};
+        for (String word : new String[] {"y", "yar", "yards", "yardyard", "dray", "z", "hard", "zard", "yord", "yarn", "yarda", "yardz"}) faultAt("", word + " 5;");
+        String[] none = {"play", "players", "layer", "nuts", "nu", "strikes", "strik", "waits", "wai", "waitwait", "a", "zzz",
+            "slayer", "playez", "hut", "nub", "nuta", "nutz", "ztrike", "stroke", "strika", "bait", "want", "wail", "zwait"};
         for (String word : none) faultAt(NUTS, word + " 1 0 1 1;");
         faultAt(NUTS, "wai");
         faultAt(NUTS + "wait ", "wait 1;");

@@ -65,7 +65,8 @@ public final class ThereEdgesTest {
         x.image(0);
         for (int n = 0; n < 8; n++) x.undo();
         Edge.no(x, "undo()", x::undo);
-        x.strikes(0, 1);
+        // eight others come in their place
+        for (int n = 0; n < 8; n++) x.waits(50);
         due("from(0)", x.from(0), 1);
         due("count(9)", x.count(9), 8);
         for (int n = 8; n >= 1; n--) due("undo()", x.undo(), n);
@@ -91,6 +92,11 @@ public final class ThereEdgesTest {
         x.image(0);
         long kept = x.digest();
         for (int what = 0; what < 3; what++) x.forget(what);
+        // others come in their place
+        x.seen(0, 9, 9, 9, 9);
+        x.note(0, 9, 9, 9, 9, 9);
+        x.mark(0, 9, 9, 9, 9);
+        x.strikes(4, 1);
         Yards.readText(x, "yard 5;player 3 3;");
         x.clear();
         due("from(0)", x.from(0), 1);
